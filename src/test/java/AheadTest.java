@@ -10,6 +10,8 @@ public final class AheadTest {
         wouldBeBusy();
         wouldBeBusyAsFarAsRunGoes();
         nothingChanges();
+        asItComes();
+        throwingOutAhead();
         digest();
         Check.end();
     }
@@ -160,6 +162,98 @@ public final class AheadTest {
             x.step();
         }
         Check.due("one was spawned at least", 1, x.processes() > 3 ? 1 : 0);
+    }
+
+    /** What is foretold on one object is what then comes on another one made by the same calls. */
+    private static void asItComes() {
+        Check.promise(42, "endOf, and 43 wouldBeBusy, against what comes");
+        for (int luck = 0; luck < 4; luck++) {
+            for (int steps = 0; steps < 90; steps++) {
+                Sandglass ahead = crowd(luck, steps);
+                for (int p = 0; p < ahead.processes(); p += 2) {
+                    int most = 1 + (steps * 7 + p * 5) % 100;
+                    Sandglass comes = crowd(luck, steps);
+                    Check.due("endOf(" + p + ", " + most + ") behind " + steps + " steps",
+                            endThatComes(comes, p, most), ahead.endOf(p, most));
+                }
+                for (int ticks = 0; ticks < 60; ticks += 7) {
+                    Sandglass comes = crowd(luck, steps);
+                    comes.run(ticks);
+                    for (int r = 0; r < 3; r++) {
+                        Check.due("wouldBeBusy(" + r + ", " + ticks + ") behind " + steps,
+                                comes.busy(r), ahead.wouldBeBusy(r, ticks));
+                    }
+                }
+            }
+        }
+    }
+
+    private static int endThatComes(Sandglass x, int process, int most) {
+        for (int i = 0; i < most && x.stateOf(process) < 5 && x.events() > 0; i++) {
+            x.step();
+        }
+        return x.stateOf(process) < 5 ? -1 : x.time();
+    }
+
+    /** Resources of each kind, a store and signals, with a crowd that fights for them. */
+    private static Sandglass crowd(int luck, int steps) {
+        Sandglass x = new Sandglass();
+        x.addResource(2, 3);
+        x.addResource(1, 2);
+        x.addResource(0, 2);
+        x.addStore(8, 3);
+        x.addTally(2);
+        x.setLuck(luck * 1111);
+        int taker = Check.script(x, Check.seize(0, 2), Check.pause(4, 9), Check.release(0, 1),
+                Check.pause(2, 3), Check.rank(4), Check.again(0, 2));
+        int maker = Check.script(x, Check.seize(1, 1), Check.pause(3, 5), Check.put(0, 3),
+                Check.release(1, 1), Check.signal(1), Check.again(0, 3));
+        int eater = Check.script(x, Check.seize(2, 1), Check.get(0, 2), Check.pause(1, 4),
+                Check.tally(0), Check.release(2, 1), Check.skip(0, 4), Check.await(1),
+                Check.again(0, 3));
+        int parent = Check.script(x, Check.pause(9, 9), Check.spawn(taker, 1), Check.rest(),
+                Check.seize(1, 2), Check.seize(0, 1), Check.pause(6, 2), Check.again(0, 1));
+        x.setHandler(taker, 3);
+        x.setHandler(parent, 2);
+        for (int i = 0; i < 12; i++) {
+            int[] scripts = {taker, maker, eater, parent};
+            x.start(scripts[i % 4], (i * 7) % 10, (i * 3) % 5);
+        }
+        for (int i = 0; i < steps && x.events() > 0; i++) {
+            x.step();
+            int p = (i * 5) % 12;
+            if (i % 6 == 3 && x.stateOf(p) > 0 && x.stateOf(p) < 5) {
+                x.interrupt(p);
+            }
+        }
+        return x;
+    }
+
+    private static void throwingOutAhead() {
+        Check.promise(42, "endOf, with one that was or would be thrown out");
+        Sandglass x = new Sandglass();
+        x.addResource(2, 1);
+        int low = Check.script(x, Check.seize(0, 1), Check.pause(30, 0));
+        int urgent = Check.script(x, Check.seize(0, 1), Check.pause(10, 0));
+        x.start(low, 9, 0);
+        x.start(urgent, 3, 5);
+        Check.due("to be thrown out at 5", 40, x.endOf(0, 100));
+        Check.due("to be busy", 40, x.wouldBeBusy(0, 99));
+        x.run(5);
+        Check.due("thrown out at 5", 40, x.endOf(0, 100));
+        Check.due("busy to be", 10 + 25 + 5, x.wouldBeBusy(0, 99));
+        Check.due("it is in the QUEUE still", 2, x.stateOf(0));
+
+        Sandglass y = new Sandglass();
+        y.addResource(2, 2);
+        low = Check.script(y, Check.seize(0, 1), Check.pause(30, 0));
+        urgent = Check.script(y, Check.seize(0, 1), Check.pause(10, 0));
+        y.start(low, 9, 0);
+        y.start(low, 9, 1);
+        y.start(urgent, 3, 5);
+        y.run(2);
+        Check.due("the first one keeps its unit", 30, y.endOf(0, 100));
+        Check.due("the one that got units last does not", 41, y.endOf(1, 100));
     }
 
     private static void digest() {

@@ -4,6 +4,7 @@ public final class ResourceTest {
     public static void main(String[] args) {
         byTurns();
         byRanks();
+        served();
         rankAsItCame();
         release();
         neverAhead();
@@ -51,6 +52,27 @@ public final class ResourceTest {
         Check.due("first", 2, x.queuedAt(0, 0));
         x.run(10);
         Check.due("holds", 2, x.holds(2, 0));
+    }
+
+    private static void served() {
+        Check.promise(20, "stateOf one that is served: READY");
+        Sandglass x = new Sandglass();
+        x.addResource(0, 2);
+        int user = Check.script(x, Check.pause(20, 0), Check.seize(0, 2), Check.pause(9, 0));
+        x.setHandler(user, 1);
+        x.start(user, 0, 0);
+        x.start(user, 0, 1);
+        x.run(18);
+        Check.due("interrupt", 2, x.interrupt(0));
+        Check.due("interrupt", 3, x.interrupt(1));
+        x.run(3);
+        Check.due("state", 2, x.stateOf(1));
+        x.run(5);
+        Check.due("step", 0, x.step());
+        Check.due("state", 0, x.stateOf(1));
+        Check.due("event", 27, x.eventOf(1));
+        Check.due("rest stays", 3, x.restOf(1));
+        Check.due("place behind the SEIZE", 2, x.placeOf(1));
     }
 
     private static void byRanks() {

@@ -54,6 +54,7 @@ public final class TallyTest {
         Sandglass z = tallying(1, 4, 0);
         Check.due("least of 4 and 0", 0, z.ofTally(0, 1));
         Check.due("latest of 4 and 0", 0, z.ofTally(0, 3));
+        Check.due("greatest of 4 and 0", 4, z.ofTally(0, 2));
     }
 
     private static void batches() {
