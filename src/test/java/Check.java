@@ -1,7 +1,12 @@
+import java.lang.reflect.InvocationTargetException;
+import java.lang.reflect.Method;
+import java.util.List;
 import java.util.function.LongSupplier;
+import java.util.function.Supplier;
+import java.util.function.ToLongFunction;
 
 /** What all tests of the project use: answers that are due, exceptions that are due. */
-final class Check {
+class Check {
 
     static final String INDEX = "IndexOutOfBoundsException";
     static final String ARGUMENT = "IllegalArgumentException";
@@ -11,7 +16,28 @@ final class Check {
     private static int wrong;
     private static String promise = "";
 
-    private Check() {
+    Check() {
+    }
+
+    /** Runs each test of the class that names its sentence; one that fails stops none other. */
+    static void tests(Class<?> tests) {
+        int before = checks;
+        for (Method test : tests.getDeclaredMethods()) {
+            Says says = test.getAnnotation(Says.class);
+            if (says == null) {
+                continue;
+            }
+            promise = says.part() + " (" + says.words() + "), " + test.getName() + ": ";
+            try {
+                test.invoke(null);
+            } catch (InvocationTargetException e) {
+                fail("the test was stopped by " + e.getCause());
+            } catch (IllegalAccessException e) {
+                fail("the test cannot be run: " + e);
+            }
+        }
+        promise = tests.getName() + ": ";
+        due("there were checks", 1, checks > before ? 1 : 0);
     }
 
     /** Names what the checks from here on are about. */
@@ -51,6 +77,25 @@ final class Check {
         }
         dueText(what + " throws", exception, thrown);
         due("the digest behind " + what, before, x.digest());
+    }
+
+    /**
+     * The call throws exactly this, and has changed nothing: the object that it was made on, and
+     * another one made alike, answer alike to all that comes later.
+     */
+    static void refused(String exception, Supplier<Sandglass> made, String what,
+            ToLongFunction<Sandglass> call) {
+        Sandglass x = made.get();
+        dueText(what + " throws", exception, Later.answer(() -> call.applyAsLong(x)));
+        List<String> want = Later.of(made.get());
+        List<String> got = Later.of(x);
+        for (int i = 0; i < want.size(); i++) {
+            if (!want.get(i).equals(got.get(i))) {
+                dueText("behind " + what + ", call " + i + " later", want.get(i), got.get(i));
+                return;
+            }
+        }
+        checks++;
     }
 
     static void fail(String text) {

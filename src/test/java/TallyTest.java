@@ -106,26 +106,25 @@ public final class TallyTest {
             }
             Sandglass x = tallying(batch, numbers);
             Check.due("batches", 24 / batch, x.batches(0));
-            for (int i = 0; i < 24 / batch; i++) {
-                int sum = 0;
+            long[] sums = new long[24 / batch];
+            for (int i = 0; i < sums.length; i++) {
                 for (int j = i * batch; j < (i + 1) * batch; j++) {
-                    sum += numbers[j];
+                    sums[i] += numbers[j];
                 }
-                Check.due("sumOf", sum, x.sumOf(0, i));
+                Check.due("sumOf", sums[i], x.sumOf(0, i));
             }
-            Check.due("spread with batches of " + batch, reckoned(x, batch), x.spread(0));
+            Check.due("spread with batches of " + batch, reckoned(sums, batch), x.spread(0));
         }
     }
 
     /** The spread by the words of the promise, with whole numbers of any length. */
-    private static double reckoned(Sandglass x, int batch) {
+    private static double reckoned(long[] sums, int batch) {
         BigInteger all = BigInteger.ZERO;
         BigInteger squares = BigInteger.ZERO;
-        long k = x.batches(0);
-        for (int i = 0; i < k; i++) {
-            BigInteger s = BigInteger.valueOf(x.sumOf(0, i));
-            all = all.add(s);
-            squares = squares.add(s.multiply(s));
+        long k = sums.length;
+        for (long s : sums) {
+            all = all.add(BigInteger.valueOf(s));
+            squares = squares.add(BigInteger.valueOf(s * s));
         }
         BigInteger over = BigInteger.valueOf(k).multiply(squares).subtract(all.multiply(all));
         return k < 2 ? 0.0 : over.doubleValue() / (double) (k * (k - 1) * batch * batch);
@@ -156,11 +155,20 @@ public final class TallyTest {
             for (; calls < 508; calls++) {
                 x.run(999);
             }
-            Check.due("tallied", 33L * 466 * 400, x.tallied(0));
-            Check.due("batches", 33L * 466 * 400 / batch, x.batches(0));
-            Check.due("spread", reckoned(x, batch), x.spread(0));
-            Check.due("the digest again", x.digest(), x.digest());
+            int numbers = 33 * 466 * 400;
+            Check.due("tallied", numbers, x.tallied(0));
+            Check.due("batches", numbers / batch, x.batches(0));
+            Check.due("spread", reckoned(farSums(numbers, batch), batch), x.spread(0));
         }
+    }
+
+    /** The sums of the batches: 12 events at each tick, of which each tallies 33 times. */
+    private static long[] farSums(int numbers, int batch) {
+        long[] sums = new long[numbers / batch];
+        for (int i = 0; i < sums.length * batch; i++) {
+            sums[i / batch] += i / (12 * 33);
+        }
+        return sums;
     }
 
     private static void askingThrows() {
