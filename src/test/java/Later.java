@@ -15,7 +15,7 @@ final class Later {
         this.x = x;
     }
 
-    /** Makes some 230 calls. */
+    /** Makes some 190 calls. */
     static List<String> of(Sandglass x) {
         Later later = new Later(x);
         later.note("digest", x::digest);

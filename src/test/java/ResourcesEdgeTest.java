@@ -404,6 +404,20 @@ public final class ResourcesEdgeTest extends Check {
         comes(x, firm(x, 1), 1);
         due("also as another one comes behind", 1, x.holds(0, 0));
         dueQueue(x, 1, 2);
+        Sandglass y = withResource(2, 2);
+        comes(y, script(y, seize(0, 1), await(0), pause(50, 0)), 9);
+        comes(y, firm(y, 1), 9);
+        comes(y, firm(y, 2), 0);
+        comes(y, firm(y, 2), 1);
+        y.interrupt(0);
+        y.step();
+        y.cancel(1);
+        due("as units are released, too few without its own", 1, y.holds(0, 0));
+        dueQueue(y, 2, 3);
+        y.cancel(2);
+        due("as one leaves the QUEUE", 1, y.holds(0, 0));
+        dueQueue(y, 3);
+        due("free", 1, y.free(0));
     }
 
     // ---- to be thrown out

@@ -211,7 +211,7 @@ public final class TalliesEdgeTest extends Check {
     static void spreadOfFarNumbers() {
         Sandglass x = new Sandglass();
         x.addTally(7);
-        script(x, await(0), tally(0), tally(0), again(1, 9), pause(1, 0), again(1, 20), again(1, 4));
+        script(x, await(0), tally(0), tally(0), again(1, 9), pause(1, 0), again(1, 20), again(1, 11));
         script(x, signal(0));
         x.start(0, 0, 0);
         for (int i = 0; i < 440; i++) {
@@ -219,10 +219,10 @@ public final class TalliesEdgeTest extends Check {
         }
         x.start(1, 0, 0);
         x.run(999);
-        due("tallied", 20 * 105, x.tallied(0));
+        due("tallied", 20 * 252, x.tallied(0));
         BigInteger all = BigInteger.ZERO;
         BigInteger squares = BigInteger.ZERO;
-        for (int batch = 0; batch < 300; batch++) {
+        for (int batch = 0; batch < 720; batch++) {
             long sum = 0;
             for (int i = 7 * batch; i < 7 * batch + 7; i++) {
                 sum += 440 * 999 + i / 20;
@@ -230,9 +230,9 @@ public final class TalliesEdgeTest extends Check {
             all = all.add(BigInteger.valueOf(sum));
             squares = squares.add(BigInteger.valueOf(sum * sum));
         }
-        BigInteger over = BigInteger.valueOf(300).multiply(squares).subtract(all.multiply(all));
-        due("spread", over.doubleValue() / (300.0 * 299 * 7 * 7), x.spread(0));
-        due("the last sum", 7 * (440 * 999 + 104), x.sumOf(0, 299));
+        BigInteger over = BigInteger.valueOf(720).multiply(squares).subtract(all.multiply(all));
+        due("spread", over.doubleValue() / (720.0 * 719 * 7 * 7), x.spread(0));
+        due("the last sum", 7 * (440 * 999 + 251), x.sumOf(0, 719));
     }
 
     @Says(part = "Promise 41", words = "Returns that (the variance of the means of its batches)")
