@@ -6,7 +6,7 @@ import java.nio.file.Files;
 import java.nio.file.Path;
 import java.util.TreeSet;
 
-/** The public face, name by name, and what LANGUAGE.md lets a text be searched for. */
+/** The public face, name by name, and words that LANGUAGE.md bans. */
 public final class FaceTest {
 
     private static final String[] FACE = {

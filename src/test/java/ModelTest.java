@@ -3,15 +3,19 @@ import java.util.function.Supplier;
 /** Many runs of calls, drawn from fixed seeds, on the program and on the model side by side. */
 public final class ModelTest {
 
-    private static final int RUNS = 1500;
+    private static final int RUNS = 2000;
     /** Behind the 512th call answers are free, and one round makes up to ten calls. */
     private static final int MOST_CALLS = 512 - 10;
-    private static final int[] CODES = {
+    private static final int[] ALL_CODES = {
         0, 0, 0, 0, 1, 1, 1, 1, 2, 2, 3, 3, 4, 4, 5, 6, 7, 8, 9, 9, 10, 10, 11, 12, 13,
     };
+    /** Crowded resources, where many are thrown out and come back. */
+    private static final int[] TAKING_CODES = {0, 0, 0, 0, 1, 1, 1, 1, 1, 2, 7, 10, 10, 11, 12};
+    private static final int[] STORE_CODES = {0, 3, 3, 3, 4, 4, 4, 5, 6, 7, 10, 10, 13};
 
     private final Sandglass x = new Sandglass();
     private final Model m = new Model();
+    private final int[] codes;
     private final StringBuilder told = new StringBuilder();
     private long seed;
     private int made;
@@ -19,6 +23,7 @@ public final class ModelTest {
 
     private ModelTest(int run) {
         seed = run * 7919L + 1;
+        codes = run % 4 == 1 ? TAKING_CODES : run % 4 == 3 ? STORE_CODES : ALL_CODES;
     }
 
     public static void main(String[] args) {
@@ -56,7 +61,7 @@ public final class ModelTest {
 
     private void go() {
         furnish();
-        int calls = draw(30, 150);
+        int calls = draw(0, 9) == 0 ? MOST_CALLS : draw(30, 150);
         for (int i = 0; i < calls && made <= MOST_CALLS && !wrong; i++) {
             act();
             same("digest()", null, () -> m.digest(), () -> x.digest());
@@ -100,7 +105,7 @@ public final class ModelTest {
         for (int i = draw(1, 3); i > 0; i--) {
             addResource();
         }
-        for (int i = draw(0, 2); i > 0; i--) {
+        for (int i = draw(codes == STORE_CODES ? 1 : 0, 2); i > 0; i--) {
             addStore();
         }
         for (int i = draw(0, 2); i > 0; i--) {
@@ -125,7 +130,7 @@ public final class ModelTest {
     }
 
     private void addResource() {
-        int kind = loose(0, 2);
+        int kind = codes == TAKING_CODES && draw(0, 3) > 0 ? 2 : loose(0, 2);
         int units = loose(1, draw(1, 9));
         String due = !in(kind, 0, 2) || !in(units, 1, 9) ? Check.ARGUMENT
                 : m.resources() >= 6 ? Check.STATE : null;
@@ -154,7 +159,7 @@ public final class ModelTest {
     }
 
     private void add(int script) {
-        int code = draw(0, 40) == 0 ? loose(0, 13) : CODES[draw(0, CODES.length - 1)];
+        int code = draw(0, 40) == 0 ? loose(0, 13) : codes[draw(0, codes.length - 1)];
         int a = firstNumber(code);
         int b = secondNumber(code);
         String due = !m.hasScript(script) ? Check.INDEX
